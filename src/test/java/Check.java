@@ -1,80 +1,71 @@
-import java.nio.charset.StandardCharsets;
+import java.lang.reflect.InvocationTargetException;
+import java.lang.reflect.Method;
+import java.lang.reflect.Modifier;
+import java.util.Arrays;
+import java.util.Comparator;
 
-/** What the tests share: counting wrong answers, and putting texts on a tape. */
-final class Check {
-    private final String test;
-    private int wrong = 0;
+/** What a class of tests extends: it runs the tests and counts the answers that are not as due. */
+abstract class Check {
+    static final int REFUSED = WordTerms.REFUSED, NONE = WordTerms.NONE, FULL = WordTerms.FULL;
+    static final int LOWEST = Integer.MIN_VALUE, HIGHEST = Integer.MAX_VALUE;
 
-    Check(String test) {
-        this.test = test;
+    private static String running = "";
+    private static int wrong = 0;
+
+    static void due(Object got, Object want) {
+        due("it", got, want);
     }
 
-    void due(String what, Object got, Object want) {
+    static void due(String what, Object got, Object want) {
         if (!got.equals(want)) {
-            wrong++;
-            System.out.println(test + ": " + what + " answered " + got + ", due is " + want);
+            wrong(what + " answered " + got + ", due is " + want);
         }
     }
 
-    void finish() {
-        System.out.println(test + (wrong == 0 ? ": all answers are as due" : ": " + wrong + " answers are not as due"));
-        if (wrong != 0) {
+    /** Every static method that is not private and takes nothing is a test, so that none is forgotten in a list. */
+    static void runTests(Class<?> tests) {
+        Method[] methods = tests.getDeclaredMethods();
+        Arrays.sort(methods, Comparator.comparing(Method::getName));
+        int ran = 0;
+        for (Method method : methods) {
+            if (isTest(method)) {
+                runTest(tests.getName(), method);
+                ran++;
+            }
+        }
+        System.out.println(tests.getName() + ": " + ran + " tests, " + wrong + " answers not as due");
+        if (wrong != 0 || ran == 0) {
             System.exit(1);
         }
     }
 
-    /** Puts the text on an empty tape and cuts off the zeros that fill the last feed. */
-    static void type(WordTerms x, String text) {
-        byte[] bytes = text.getBytes(StandardCharsets.ISO_8859_1);
-        for (int from = 0; from < bytes.length; from += 20) {
-            x.feed(four(bytes, from), four(bytes, from + 4), four(bytes, from + 8),
-                    four(bytes, from + 12), four(bytes, from + 16));
-        }
-        int cut = x.end(bytes.length);
-        if (cut != bytes.length) {
-            throw new IllegalStateException("the tape was not empty, or the text is too long: " + text);
+    private static boolean isTest(Method method) {
+        int modifiers = method.getModifiers();
+        return Modifier.isStatic(modifiers) && !Modifier.isPrivate(modifiers) && method.getParameterCount() == 0;
+    }
+
+    private static void runTest(String tests, Method method) {
+        running = tests + "." + method.getName();
+        try {
+            method.invoke(null);
+        } catch (InvocationTargetException thrown) {
+            wrong("threw " + thrown.getCause());
+        } catch (IllegalAccessException hidden) {
+            wrong("can't be called: " + hidden);
         }
     }
 
-    static int four(byte[] bytes, int from) {
-        int all = 0;
-        for (int i = from; i < from + 4; i++) {
-            all = all << 8 | (i < bytes.length ? bytes[i] & 255 : 0);
-        }
-        return all;
+    private static void wrong(String what) {
+        wrong++;
+        System.out.println(running + lineOfTest() + ": " + what);
     }
 
-    static WordTerms textOf(String text) {
-        WordTerms x = new WordTerms();
-        type(x, text);
-        x.read();
-        return x;
-    }
-
-    /** Term k as the calls of sign tell it. */
-    static String term(WordTerms x, int k) {
-        StringBuilder signs = new StringBuilder();
-        for (int i = 0; i < x.sign(k, -1); i++) {
-            signs.append((char) x.sign(k, i));
+    private static String lineOfTest() {
+        for (StackTraceElement call : new Throwable().getStackTrace()) {
+            if (running.equals(call.getClassName() + "." + call.getMethodName())) {
+                return ", line " + call.getLineNumber();
+            }
         }
-        return signs.toString();
-    }
-
-    /** All terms of the text, with a blank between two. */
-    static String terms(WordTerms x) {
-        StringBuilder all = new StringBuilder();
-        for (int k = 0; x.sign(k, -1) != WordTerms.NONE; k++) {
-            all.append(k == 0 ? "" : " ").append(term(x, k));
-        }
-        return all.toString();
-    }
-
-    /** How many bytes are on a tape that has room for no more than 300. */
-    static int onTape(WordTerms x) {
-        int n = 300;
-        while (n > 0 && x.end(n) == WordTerms.REFUSED) {
-            n--;
-        }
-        return n;
+        return "";
     }
 }

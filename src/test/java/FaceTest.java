@@ -8,21 +8,22 @@ import java.util.Set;
 import java.util.TreeSet;
 
 /** The public face: just the members that the document names, and none that others can see beside them. */
-public final class FaceTest {
-    private static final Check CHECK = new Check("FaceTest");
-
+public final class FaceTest extends Check {
     public static void main(String[] args) {
-        CHECK.due("modifiers", Modifier.toString(WordTerms.class.getModifiers()), "public final");
-        CHECK.due("REFUSED", WordTerms.REFUSED, -1);
-        CHECK.due("NONE", WordTerms.NONE, -2);
-        CHECK.due("FULL", WordTerms.FULL, -3);
-        methods();
-        constructors();
-        fields();
-        CHECK.finish();
+        runTests(FaceTest.class);
     }
 
-    private static void methods() {
+    static void modifiers() {
+        due(Modifier.toString(WordTerms.class.getModifiers()), "public final");
+    }
+
+    static void constants() {
+        due(WordTerms.REFUSED, -1);
+        due(WordTerms.NONE, -2);
+        due(WordTerms.FULL, -3);
+    }
+
+    static void methods() {
         Set<String> seen = new TreeSet<>();
         for (Method method : WordTerms.class.getDeclaredMethods()) {
             if (isSeen(method)) {
@@ -35,25 +36,25 @@ public final class FaceTest {
                 "public int sign[int, int]", "public int different[]", "public int first[int]",
                 "public int compare[int, int]", "public int apart[int]", "public int nearest[]",
                 "public int plain[]"));
-        CHECK.due("methods", seen, due);
+        due("methods", seen, due);
     }
 
-    private static void constructors() {
+    static void constructors() {
         Set<String> seen = new TreeSet<>();
         for (Constructor<?> constructor : WordTerms.class.getDeclaredConstructors()) {
             seen.add(Modifier.toString(constructor.getModifiers()) + parameters(constructor.getParameterTypes()));
         }
-        CHECK.due("constructors", seen, Set.of("public[]"));
+        due("constructors", seen, Set.of("public[]"));
     }
 
-    private static void fields() {
+    static void fields() {
         Set<String> seen = new TreeSet<>();
         for (Field field : WordTerms.class.getDeclaredFields()) {
             if (isSeen(field)) {
                 seen.add(Modifier.toString(field.getModifiers()) + " " + field.getType() + " " + field.getName());
             }
         }
-        CHECK.due("fields", seen, new TreeSet<>(Arrays.asList("public static final int REFUSED",
+        due("fields", seen, new TreeSet<>(Arrays.asList("public static final int REFUSED",
                 "public static final int NONE", "public static final int FULL")));
     }
 

@@ -4,9 +4,8 @@ import java.util.List;
 import java.util.Random;
 
 /** Long runs of calls, the same each time, beside a second reading of the document made of the Java library. */
-public final class ModelTest {
-    private static final Check CHECK = new Check("ModelTest");
-    private static final int RUNS = 2000, CALLS = 512;
+public final class ModelTest extends Check {
+    private static final int RUNS = 2000;
 
     /** The document again, with strings and regular expressions. */
     private static final class Model {
@@ -15,7 +14,7 @@ public final class ModelTest {
 
         int feed(String twenty) {
             if (tape.length() + twenty.length() > 300) {
-                return WordTerms.FULL;
+                return FULL;
             }
             tape += twenty;
             return tape.length();
@@ -23,7 +22,7 @@ public final class ModelTest {
 
         int end(int n) {
             if (n < 0 || n > tape.length()) {
-                return WordTerms.REFUSED;
+                return REFUSED;
             }
             tape = tape.substring(0, n);
             return n;
@@ -41,7 +40,7 @@ public final class ModelTest {
 
         int sign(int k, int i) {
             if (!has(k) || i < -1 || i >= text.get(k).length()) {
-                return WordTerms.NONE;
+                return NONE;
             }
             return i == -1 ? text.get(k).length() : text.get(k).charAt(i);
         }
@@ -51,27 +50,27 @@ public final class ModelTest {
         }
 
         int first(int k) {
-            return has(k) ? text.indexOf(text.get(k)) : WordTerms.NONE;
+            return has(k) ? text.indexOf(text.get(k)) : NONE;
         }
 
         int compare(int k, int j) {
-            return has(k) && has(j) ? Integer.signum(text.get(k).compareTo(text.get(j))) : WordTerms.NONE;
+            return has(k) && has(j) ? Integer.signum(text.get(k).compareTo(text.get(j))) : NONE;
         }
 
         int apart(int k) {
             if (!has(k)) {
-                return WordTerms.NONE;
+                return NONE;
             }
             String word = take();
-            return isWord(word) ? distance(text.get(k), term(word)) : WordTerms.REFUSED;
+            return isWord(word) ? distance(text.get(k), term(word)) : REFUSED;
         }
 
         int nearest() {
             String word = take();
             if (!isWord(word)) {
-                return WordTerms.REFUSED;
+                return REFUSED;
             }
-            int best = WordTerms.NONE;
+            int best = NONE;
             for (int k = 0; k < text.size(); k++) {
                 if (k == 0 || distance(text.get(k), term(word)) < distance(text.get(best), term(word))) {
                     best = k;
@@ -83,7 +82,7 @@ public final class ModelTest {
         int plain() {
             String word = take();
             if (!isWord(word) || text.size() == 150) {
-                return WordTerms.REFUSED;
+                return REFUSED;
             }
             text.add(cut(small(word)));
             return text.size();
@@ -133,18 +132,21 @@ public final class ModelTest {
     }
 
     public static void main(String[] args) {
-        for (int run = 0; run < RUNS; run++) {
-            run(run, new Random(run));
-        }
-        CHECK.finish();
+        runTests(ModelTest.class);
     }
 
-    private static void run(int run, Random random) {
-        WordTerms x = new WordTerms();
+    static void longRuns() {
+        for (int number = 0; number < RUNS; number++) {
+            longRun(number, new Random(number));
+        }
+    }
+
+    private static void longRun(int number, Random random) {
+        Run run = new Run();
         Model model = new Model();
-        String alphabet = ALPHABETS[run % ALPHABETS.length];
-        for (int call = 0; call < CALLS; call++) {
-            step("run " + run + ", call " + call + ": ", x, model, random, alphabet);
+        String alphabet = ALPHABETS[number % ALPHABETS.length];
+        while (run.calls() < Run.MAX_CALLS) {
+            step("run " + number + ", call " + run.calls() + ": ", run, model, random, alphabet);
         }
     }
 
@@ -152,38 +154,35 @@ public final class ModelTest {
         "ab ", "iesusIESUS", "iesxy     ", "aAbBsSuUiIeE01 -", "0189/:@AZ[`az{\0\u00ff\u00e1\u0080", "sie", "a "
     };
 
-    private static void step(String at, WordTerms x, Model model, Random random, String alphabet) {
+    private static void step(String at, Run run, Model model, Random random, String alphabet) {
         int k = number(random, model.text.size());
         int j = number(random, model.text.size());
         switch (random.nextInt(16)) {
-            case 0, 1, 2, 3, 4 -> feed(at, x, model, twenty(random, alphabet));
+            case 0, 1, 2, 3, 4 -> feed(at, run, model, twenty(random, alphabet));
             case 5, 6, 7 -> {
                 int n = number(random, random.nextBoolean() ? model.tape.length() : 30);
-                CHECK.due(at + "end(" + n + ")", x.end(n), model.end(n));
+                due(at + "end(" + n + ")", run.end(n), model.end(n));
             }
             case 8 -> {
                 if (random.nextInt(4) == 0) {
-                    CHECK.due(at + "read()", x.read(), model.read());
+                    due(at + "read()", run.read(), model.read());
                 }
             }
             case 9 -> {
                 int i = number(random, 24);
-                CHECK.due(at + "sign(" + k + ", " + i + ")", x.sign(k, i), model.sign(k, i));
+                due(at + "sign(" + k + ", " + i + ")", run.sign(k, i), model.sign(k, i));
             }
-            case 10 -> CHECK.due(at + "different()", x.different(), model.different());
-            case 11 -> CHECK.due(at + "first(" + k + ")", x.first(k), model.first(k));
-            case 12 -> CHECK.due(at + "compare(" + k + ", " + j + ")", x.compare(k, j), model.compare(k, j));
-            case 13 -> CHECK.due(at + "apart(" + k + ")", x.apart(k), model.apart(k));
-            case 14 -> CHECK.due(at + "nearest()", x.nearest(), model.nearest());
-            default -> CHECK.due(at + "plain()", x.plain(), model.plain());
+            case 10 -> due(at + "different()", run.different(), model.different());
+            case 11 -> due(at + "first(" + k + ")", run.first(k), model.first(k));
+            case 12 -> due(at + "compare(" + k + ", " + j + ")", run.compare(k, j), model.compare(k, j));
+            case 13 -> due(at + "apart(" + k + ")", run.apart(k), model.apart(k));
+            case 14 -> due(at + "nearest()", run.nearest(), model.nearest());
+            default -> due(at + "plain()", run.plain(), model.plain());
         }
     }
 
-    private static void feed(String at, WordTerms x, Model model, String twenty) {
-        byte[] bytes = twenty.getBytes(java.nio.charset.StandardCharsets.ISO_8859_1);
-        int got = x.feed(Check.four(bytes, 0), Check.four(bytes, 4), Check.four(bytes, 8),
-                Check.four(bytes, 12), Check.four(bytes, 16));
-        CHECK.due(at + "feed of " + twenty, got, model.feed(twenty));
+    private static void feed(String at, Run run, Model model, String twenty) {
+        due(at + "feed of " + twenty, run.feed(twenty), model.feed(twenty));
     }
 
     private static String twenty(Random random, String alphabet) {
