@@ -9,6 +9,9 @@ abstract class Check {
     static final int REFUSED = WordTerms.REFUSED, NONE = WordTerms.NONE, FULL = WordTerms.FULL;
     static final int LOWEST = Integer.MIN_VALUE, HIGHEST = Integer.MAX_VALUE;
 
+    // One fault can make thousands of answers wrong in long runs: the first of them are enough to find it.
+    private static final int MAX_TOLD = 40;
+
     private static String running = "";
     private static int wrong = 0;
 
@@ -57,7 +60,9 @@ abstract class Check {
 
     private static void wrong(String what) {
         wrong++;
-        System.out.println(running + lineOfTest() + ": " + what);
+        if (wrong <= MAX_TOLD) {
+            System.out.println(running + lineOfTest() + ": " + what);
+        }
     }
 
     private static String lineOfTest() {
