@@ -39,6 +39,17 @@ public final class FaceTest extends Check {
         due("methods", seen, due);
     }
 
+    static void noPrivateMethodBearsAPublicName() {
+        Set<String> names = new TreeSet<>();
+        for (Method method : WordTerms.class.getMethods()) {
+            names.add(method.getName());
+        }
+        for (Method method : WordTerms.class.getDeclaredMethods()) {
+            boolean hidden = Modifier.isPrivate(method.getModifiers());
+            due(method.getName() + " private too", hidden && names.contains(method.getName()), false);
+        }
+    }
+
     static void constructors() {
         Set<String> seen = new TreeSet<>();
         for (Constructor<?> constructor : WordTerms.class.getDeclaredConstructors()) {
